@@ -59,6 +59,12 @@ public final class FaultsTest {
         fault("summer", "picture 30 9 40 63 9 0;", -9, 21);
         fault("summer", "picture 30,9;", -9, 10);
         fault("summer", "picture 31 x", -8, 8);
+        fault("summer", "picture 30 10 x", -8, 11);
+        fault("summer", "picture 30 9 41 x", -8, 13);
+        fault("summer", "picture 30 9 40 64 x", -8, 16);
+        fault("summer", "picture 30 9 40 63 10;", -8, 19);
+        fault("summer", "bin 0;", -8, 4);
+        fault("summer", "size 8;tire 0;bin 30;size 0;tire 9;bin 1;", 0, -1);
     }
 
     private void summersWithTooMany() {

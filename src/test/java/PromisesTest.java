@@ -383,6 +383,11 @@ public final class PromisesTest {
         due("thrown", 1, () -> x.picture(0, 5));
         due("no star", 0, () -> x.picture(0, 6));
         due("never looked at", -1, () -> x.picture(0, 7));
+        Check.summer(x, "picture 1 2 3 4 5;".repeat(16));
+        due("the last of sixteen, never looked at", -1, () -> x.picture(15, 7));
+        due("the last of sixteen", 5, () -> x.picture(15, 4));
+        unknown("no picture 16", () -> x.picture(16, 0));
+        Check.summer(x, SUMMER);
         unknown("no picture 8", () -> x.picture(8, 0));
         unknown("no picture -1", () -> x.picture(-1, 0));
         unknown("no picture 32", () -> x.picture(32, 0));
@@ -525,6 +530,9 @@ public final class PromisesTest {
         due("too few", 0, () -> x.isBook(1 + 4) ? 1 : 0);
         due("too many", 0, () -> x.isBook(1 + 4 + 32 + 64) ? 1 : 0);
         due("a wish not met", 0, () -> x.isBook(1 + 32 + 64) ? 1 : 0);
+        Check.summer(x, "picture 0 0 0 62 0;size 1;wish 0 1;");
+        due("a wish for the first person not met", 0, () -> x.isBook(1) ? 1 : 0);
+        Check.summer(x, SUMMER);
         look("throw 5;");
         due("one is not kept", 0, () -> x.isBook(1 + 4 + 32) ? 1 : 0);
         bad("bits of no picture", () -> x.isBook(256) ? 1 : 0);
@@ -641,6 +649,10 @@ public final class PromisesTest {
         due("same as looked at, too", 7 + 12, () -> x.order(3));
         Check.law(x, "worth + 5");
         due("0 at least", 0, () -> x.order(3));
+        Check.summer(x, "picture 0 0 40 0 0;picture 0 0 40 0 0;tire 9;");
+        look("again 10[look 0;];");
+        Check.law(x, "tired - 69");
+        due("tired is 99 at most", 40 - 21 + 40 - 30, () -> x.order(3));
     }
 
     private void ordered() {
@@ -808,6 +820,10 @@ public final class PromisesTest {
         due("gone", -1, () -> x.binned(1));
         unknown("no picture 8", () -> x.binned(8));
         unknown("no picture -1", () -> x.binned(-1));
+        Check.summer(x, "picture 0 0 0 0 0;".repeat(16));
+        look("evening;throw 15;");
+        look("evening;");
+        due("the last of sixteen, over two works", 2, () -> x.binned(15));
         Check.summer(x, "picture 0 0 0 0 0;bin 30;");
         look("again 19[evening;evening;evening;evening;evening;evening;evening;evening;evening;evening;];");
         look("again 10[evening;];throw 0;evening;");
