@@ -223,13 +223,7 @@ public final class SummerPictures {
     }
 
     public int favourite() {
-        int best = NONE;
-        for (int p = 0; p < album.count; p++) {
-            if (isKeptAndSeen(p) && (best == NONE || desk.opinions[p] > desk.opinions[best])) {
-                best = p;
-            }
-        }
-        return best;
+        return album.firstGreatest(keptAndSeen(), desk.opinions);
     }
 
     // ---- the book ----
@@ -275,7 +269,7 @@ public final class SummerPictures {
         if (bestOut == NONE || what == 0) {
             return bestOut;
         }
-        return what == 1 ? bestIn : album.sharpOf(pictures) + bestGain;
+        return what == 1 ? bestIn : album.sumOf(pictures, album.sharps) + bestGain;
     }
 
     public boolean isBook(int pictures) throws IllegalArgumentException {
@@ -390,15 +384,8 @@ public final class SummerPictures {
 
     public int day(int day, int what) throws IllegalArgumentException {
         requireArgument(within(day, 0, LAST_DAY) && within(what, 0, 1));
-        int count = 0;
-        int best = NONE;
-        for (int p = 0; p < album.count; p++) {
-            if (isIn(desk.keptBits, p) && album.days[p] == day) {
-                count++;
-                best = best == NONE || album.worths[p] > album.worths[best] ? p : best;
-            }
-        }
-        return what == 0 ? count : best;
+        int bits = album.those(album.days, day) & desk.keptBits;
+        return what == 0 ? Integer.bitCount(bits) : album.firstGreatest(bits, album.worths);
     }
 
     public int together(int person, int other, int what)
@@ -409,7 +396,7 @@ public final class SummerPictures {
         if (what == 0) {
             return Integer.bitCount(keptWith(person) & keptWith(other));
         }
-        return album.withJust(1 << person | 1 << other) & desk.keptBits;
+        return album.those(album.crowds, 1 << person | 1 << other) & desk.keptBits;
     }
 
     public int missing() {
@@ -442,15 +429,8 @@ public final class SummerPictures {
 
     public int scene(int scene, int what) throws IllegalArgumentException {
         requireArgument(within(scene, 0, SCENES - 1) && within(what, 0, 1));
-        int count = 0;
-        int best = NONE;
-        for (int p = 0; p < album.count; p++) {
-            if (isIn(desk.keptBits, p) && album.scenes[p] == scene) {
-                count++;
-                best = best == NONE || album.sharps[p] > album.sharps[best] ? p : best;
-            }
-        }
-        return what == 0 ? count : best;
+        int bits = album.those(album.scenes, scene) & desk.keptBits;
+        return what == 0 ? Integer.bitCount(bits) : album.firstGreatest(bits, album.sharps);
     }
 
     public int friend(int person, int what) throws NoSuchElementException, IllegalArgumentException {
@@ -483,7 +463,7 @@ public final class SummerPictures {
             case 2:
                 return rests;
             default:
-                return album.worthOf(trial.keptBits);
+                return album.sumOf(trial.keptBits, album.worths);
         }
     }
 
@@ -607,16 +587,19 @@ public final class SummerPictures {
         return album.shown[person] & desk.keptBits;
     }
 
-    private boolean isKeptAndSeen(int p) {
-        return isIn(desk.keptBits, p) && desk.seen[p] > 0;
+    private int keptAndSeen() {
+        int bits = 0;
+        for (int p = 0; p < album.count; p++) {
+            bits |= desk.seen[p] > 0 ? 1 << p : 0;
+        }
+        return bits & desk.keptBits;
     }
 
     private int countThought(int least) {
+        int bits = keptAndSeen();
         int count = 0;
         for (int p = 0; p < album.count; p++) {
-            if (isKeptAndSeen(p) && desk.opinions[p] >= least) {
-                count++;
-            }
+            count += isIn(bits, p) && desk.opinions[p] >= least ? 1 : 0;
         }
         return count;
     }
@@ -876,38 +859,36 @@ public final class SummerPictures {
             return (1 << count) - 1;
         }
 
-        int withJust(int crowd) {
+        /** Those pictures of which one of the rows above says this value, kept or not. */
+        int those(int[] values, int value) {
             int bits = 0;
             for (int p = 0; p < count; p++) {
-                bits |= crowds[p] == crowd ? 1 << p : 0;
+                bits |= values[p] == value ? 1 << p : 0;
             }
             return bits;
         }
 
-        /** Those of one scene with just the same people, whether they are kept or not. */
+        /** Those of one scene with just the same people, kept or not. */
         int alike(int picture) {
-            int bits = 0;
-            for (int p = 0; p < count; p++) {
-                boolean isAlike = scenes[p] == scenes[picture] && crowds[p] == crowds[picture];
-                bits |= isAlike ? 1 << p : 0;
-            }
-            return bits;
+            return those(scenes, scenes[picture]) & those(crowds, crowds[picture]);
         }
 
-        int worthOf(int bits) {
+        int sumOf(int bits, int[] values) {
             int sum = 0;
             for (int p = 0; p < count; p++) {
-                sum += isIn(bits, p) ? worths[p] : 0;
+                sum += isIn(bits, p) ? values[p] : 0;
             }
             return sum;
         }
 
-        int sharpOf(int bits) {
-            int sum = 0;
+        int firstGreatest(int bits, int[] values) {
+            int best = NONE;
             for (int p = 0; p < count; p++) {
-                sum += isIn(bits, p) ? sharps[p] : 0;
+                if (isIn(bits, p) && (best == NONE || values[p] > values[best])) {
+                    best = p;
+                }
             }
-            return sum;
+            return best;
         }
 
         boolean areScenesApart(int bits) {
