@@ -36,6 +36,7 @@ public final class RefusalsTest {
         test.refuseOn("tape between", RefusalsTest::withTapeBetween, textFaces(120, 120, 100));
         test.refuseInside();
         test.answerOthers();
+        test.answerWithoutNumbers();
         System.out.println("RefusalsTest: " + (test.wrong == 0 ? "all as due" : test.wrong + " wrong"));
         if (test.wrong != 0) {
             System.exit(1);
@@ -98,9 +99,7 @@ public final class RefusalsTest {
 
     private void refuseOn(String state, Supplier<SummerPictures> made, List<Face> faces)
             throws ReflectiveOperationException {
-        SummerPictures other = made.get();
-        String seen = Whole.seen(other);
-        String texts = Whole.texts(other);
+        String untouched = all(made.get());
         for (Face face : faces) {
             boolean isEmpty = false;
             for (int i = 0; i < face.least.length; i++) {
@@ -109,13 +108,13 @@ public final class RefusalsTest {
             for (int i = 0; i < face.least.length; i++) {
                 List<Integer> outside = outside(face, i);
                 for (int number : outside) {
-                    refuse(state, made, face, with(face.least, i, number), seen + texts);
-                    refuse(state, made, face, with(face.most, i, number), seen + texts);
+                    refuse(state, made, face, with(face.least, i, number), untouched);
+                    refuse(state, made, face, with(face.most, i, number), untouched);
                 }
             }
             if (!isEmpty) {
-                allow(state, made, face);
-                refuseAllWrong(state, made, face, seen + texts);
+                allow(state, made, face, untouched);
+                refuseAllWrong(state, made, face, untouched);
             }
         }
     }
@@ -137,7 +136,10 @@ public final class RefusalsTest {
         return numbers;
     }
 
-    private void allow(String state, Supplier<SummerPictures> made, Face face) throws ReflectiveOperationException {
+    /** What is asked is answered, and nothing stays changed by it; texts do change things. */
+    private void allow(String state, Supplier<SummerPictures> made, Face face, String untouched)
+            throws ReflectiveOperationException {
+        boolean isText = List.of("summer", "law", "work", "clocks").contains(face.name);
         for (int i = 0; i < face.least.length; i++) {
             for (int[] base : new int[][] {face.least, face.most}) {
                 for (int end : new int[] {face.least[i], face.most[i]}) {
@@ -146,6 +148,7 @@ public final class RefusalsTest {
                     Class<?> thrown = thrownBy(x, face, numbers);
                     demand(thrown == null, state + ": " + shown(face, numbers) + " throws " + thrown);
                     demand(x.status(0) == 0 && x.status(1) == 0, state + ": " + shown(face, numbers) + " is counted");
+                    demand(isText || all(x).equals(untouched), state + ": " + shown(face, numbers) + " changes something");
                 }
             }
         }
@@ -181,7 +184,7 @@ public final class RefusalsTest {
         int[] counts = {x.status(0), x.status(1)};
         demand(counts[0] == (isUnknown ? 1 : 0) && counts[1] == (isUnknown ? 0 : 1),
                 call + " is counted " + Arrays.toString(counts));
-        String seen = Whole.seen(x) + Whole.texts(x);
+        String seen = all(x);
         demand(seen.equals(untouched), call + " changes something:\n" + seen + "\ndue is\n" + untouched);
     }
 
@@ -245,6 +248,21 @@ public final class RefusalsTest {
             int other = what == 2 ? 3 : what;
             demand(x.kept(other) == -1, "kept " + other);
             demand(x.status(0) == 0 && x.status(1) == 0, "status " + what + " is counted");
+        }
+    }
+
+    /** Calls that take no number are never refused, and those that only answer change nothing. */
+    private void answerWithoutNumbers() throws ReflectiveOperationException {
+        for (Supplier<SummerPictures> made : List.<Supplier<SummerPictures>>of(SummerPictures::new, Whole::rich, Whole::full)) {
+            String untouched = all(made.get());
+            for (String name : List.of("fault", "favourite", "bestOff", "missing", "undo", "image", "restore")) {
+                SummerPictures x = made.get();
+                Face face = new Face(name, new int[0], new int[0], new boolean[0], new boolean[0]);
+                int answer = (int) face.method().invoke(x);
+                demand(x.status(0) == 0 && x.status(1) == 0, name + " is counted");
+                boolean isChange = List.of("undo", "image", "restore").contains(name) && answer != -1;
+                demand(all(x).equals(untouched) != isChange, name + " answered " + answer + ", changed is " + !isChange);
+            }
         }
     }
 

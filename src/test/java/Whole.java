@@ -25,7 +25,7 @@ final class Whole {
     static SummerPictures worked() {
         SummerPictures x = new SummerPictures();
         Check.summer(x, SUMMER);
-        Check.law(x, "worth-tired+sharp*star");
+        Check.law(x, "worth-tired+sharp*star-same*2+looks");
         Check.clocks(x, "10 20;15 24;300 1;");
         Check.work(x, "throw 2;evening;look 0;star 1;");
         x.image();
@@ -70,25 +70,44 @@ final class Whole {
     }
 
     private static void tellPictures(StringBuilder s, SummerPictures x) {
-        for (int p = 0; p < x.told(0); p++) {
+        int many = x.told(0);
+        s.append(", pictures ").append(many);
+        for (int p = firstShown(many); p < many; p++) {
             s.append("\n picture ").append(p).append(':');
             for (int what = 0; what <= 4; what++) {
                 s.append(' ').append(x.picture(p, what));
             }
-            s.append(", thought ").append(x.thought(p)).append(", binned ").append(x.binned(p));
         }
     }
 
+    /** The last five are enough to show a change, and keep an object with all its images below its 512 calls. */
+    private static int firstShown(int pictures) {
+        return Math.max(0, pictures - 5);
+    }
+
     private static void tellWorks(StringBuilder s, SummerPictures x) {
-        do {
-            s.append("\n works ").append(x.kept(2)).append(", refused ").append(x.told(9)).append(", told");
-            for (int what = 1; what <= 7; what++) {
-                s.append(' ').append(x.told(what));
+        s.append("\n works ").append(x.kept(2)).append(", refused ").append(x.told(9)).append(", ").append(state(x));
+        for (int left = x.undo(); left != -1; left = x.undo()) {
+            s.append("\n undone, left ").append(left).append(", told ").append(x.told(1)).append(' ').append(x.told(5));
+        }
+    }
+
+    /** All that work changes, but for the works that can be undone and the steps that were refused. */
+    static String state(SummerPictures x) {
+        StringBuilder s = new StringBuilder("told");
+        for (int what = 1; what <= 7; what++) {
+            s.append(' ').append(x.told(what));
+        }
+        s.append(", never looked at ").append(x.told(10));
+        int many = x.told(0);
+        for (int p = firstShown(many); p < many; p++) {
+            s.append("\n picture ").append(p).append(':');
+            for (int what = 5; what <= 8; what++) {
+                s.append(' ').append(x.picture(p, what));
             }
-            for (int p = 0; p < x.told(0) && p < 5; p++) {
-                s.append(' ').append(x.picture(p, 5)).append(x.picture(p, 6)).append(x.picture(p, 7));
-            }
-        } while (x.undo() != -1);
+            s.append(", thought ").append(x.thought(p)).append(", binned ").append(x.binned(p));
+        }
+        return s.toString();
     }
 
     /** The latest fault, and what stands on the tape; it is empty then. */
