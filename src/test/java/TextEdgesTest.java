@@ -306,7 +306,9 @@ public final class TextEdgesTest {
         fails(kind, before + word + word + behind, SIGN, place);
         fails(kind, before + word.substring(0, letters - 1) + behind, SIGN, place);
         fails(kind, before + word.substring(1) + behind, SIGN, place);
-        fails(kind, before + word.substring(0, letters - 1) + "q" + behind, SIGN, place);
+        for (int i = 0; i < letters; i++) {
+            fails(kind, before + word.substring(0, i) + "q" + word.substring(i + 1) + behind, SIGN, place);
+        }
         fails(kind, before + Character.toUpperCase(word.charAt(0)) + word.substring(1) + behind, SIGN, place);
         fails(kind, before + word.substring(0, 1) + " " + word.substring(1) + behind, SIGN, place);
     }

@@ -26,6 +26,8 @@ public final class UndoneTest {
         test.imagesOfNothing();
         test.whatImagesLeave();
         test.anotherSummer();
+        test.summersInARow();
+        test.lawsAndClocksInARow();
         test.refusalsCounted();
         test.check.end("UndoneTest");
     }
@@ -285,6 +287,42 @@ public final class UndoneTest {
         one.summer("", 0).kept(0, 0).kept(2, 0).told(0, 0).told(8, 0).told(9, 0).restore(-1).undo(-1).image(1);
         one.due("no law", 3, x -> x.would(7, 0, 0, 0, 4, 0, 0, 0)).due("no clocks", 0, x -> x.bestOff());
         one.due("no wish, size 4", 0, x -> x.books(0)).refused(0, 1);
+    }
+
+    /** Whatever was told ahead, with a fault or not: a clause that does not stand in the latest summer is not there. */
+    private void summersInARow() {
+        String rich = "picture 9 9 40 63 9;".repeat(6) + "wish 0 1;wish 1 2;wish 5 8;size 1;tire 9;bin 30;";
+        String plain = "picture 1 2 3 0 0;picture 1 2 3 0 1;picture 1 2 3 0 2;picture 1 2 3 0 3;";
+        for (String[] ahead : new String[][] {{rich}, {rich, rich}, {rich, ""}, {"", rich}, {rich + "?"}, {rich, rich + "?"},
+            {rich, rich + "bin 0"}, {rich + "?", rich + "?"}, {rich + "picture 9 9 9 63", ""}, {rich + "wish 2"}}) {
+            Case one = of("behind " + ahead.length + " summers", "");
+            for (String text : ahead) {
+                one.due("ahead", 1, x -> Check.summer(x, text) > -10 ? 1 : 0);
+            }
+            one.summer(plain, 4).told(0, 4).due("size", 1, x -> x.books(0)).due("value", 12, x -> x.books(1));
+            for (int person = 0; person < 6; person++) {
+                int p = person;
+                one.due("wish " + p, 0, x -> x.person(p, 0)).due("on it " + p, 0, x -> x.person(p, 1));
+            }
+            one.due("missing", 0, x -> x.missing()).due("no picture 4", Check.NO_ELEMENT, x -> x.picture(4, 0));
+            one.due("days", 0, x -> x.day(9, 0)).due("scenes", 0, x -> x.scene(9, 0)).due("heaps", 4, x -> x.heaps(0));
+            one.work("look 0;throw 0;", 2).told(2, 1).due("bin", 3, x -> x.binned(0));
+        }
+    }
+
+    /** Likewise of laws and clocks: the latest without a fault is there, and nothing of those ahead of it. */
+    private void lawsAndClocksInARow() {
+        Case one = of("laws", THREE).law("1+2+3").law("50").due("the second", 50, x -> x.thought(0)).law("worth+1");
+        one.due("the third", 31, x -> x.thought(0)).due("a fault", -9, x -> Check.law(x, "7+7+7+")).due("stays", 31,
+                x -> x.thought(0)).law("2").due("the fifth", 2, x -> x.thought(0));
+        one.due("two faults", -8, x -> Check.law(x, "1000")).due("two faults", -7, x -> Check.law(x, "(".repeat(7)));
+        one.due("stays", 2, x -> x.thought(0)).summer(THREE, 3).due("no law", 30, x -> x.thought(0)).law("8");
+        one.due("the latest", 8, x -> x.thought(0));
+        Case lines = of("clocks", THREE).clocks("0 1;0 2;0 3;", 3).clocks("5 10;", 1).told(8, 1).due("best", 4,
+                x -> x.bestOff()).clocks("5 4;5 4;5 1", -9).told(8, 1).due("stays", 4, x -> x.bestOff());
+        lines.clocks("7 9;8 10;", 2).due("best", 1, x -> x.bestOff()).due("fits", 3, x -> x.off(0, 0)).clocks("1 1000;", -8);
+        lines.clocks("50 40;", 1).told(8, 1).due("best", -9, x -> x.bestOff()).clocks("", 0).told(8, 0);
+        lines.clocks("0 1;".repeat(11), -7).told(8, 0).due("none", 199, x -> x.off(0, 0)).summer(THREE, 3).told(8, 0);
     }
 
     private void refusalsCounted() {
