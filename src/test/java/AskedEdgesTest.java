@@ -372,6 +372,10 @@ public final class AskedEdgesTest {
         of("all sixteen", "picture 0 0 40 0 0;".repeat(16) + "tire 0;").work("look 0;look 1;look 2;look 3;look 4;look 5;"
                 + "look 6;look 7;look 8;look 9;look 10;look 11;look 12;look 13;look 14;look 15;", 16)
                 .due("15", 41, x -> x.strict(15)).due("16", 0, x -> x.strict(16));
+        Case most = of("the most that is thought", apart(2, "0 0 0 0"));
+        most.law("97").work("look 0;", 1).due("97", 98, x -> x.strict(0)).law("98").work("look 0;", 1);
+        most.due("98", 99, x -> x.strict(0)).law("99").work("look 1;", 1).due("99", 100, x -> x.strict(0));
+        most.due("98 and 99", 99, x -> x.strict(1)).due("of both", 0, x -> x.strict(2));
     }
 
     /** Of one that is kept, thrown, gone: what would be thought now, by all that a law may name. */
