@@ -689,8 +689,10 @@ public final class SummerPictures {
         }
 
         void requireSign(char sign) {
-            if (!takeSign(sign)) {
-                failHere();
+            if (peek() == sign) {
+                at++;
+            } else {
+                fail(FAULT_SIGN, at);
             }
         }
 
@@ -987,7 +989,16 @@ public final class SummerPictures {
                 readInside(tape, open);
             } else {
                 tape.takeWord();
-                readNamed(tape, open);
+                int fact = factNamed(tape);
+                if (fact != NONE) {
+                    put(factCode(fact));
+                } else if (tape.isWord("least")) {
+                    readPair(tape, open, LEAST);
+                } else if (tape.isWord("most")) {
+                    readPair(tape, open, MOST);
+                } else {
+                    tape.fail(FAULT_SIGN, tape.pieceAt);
+                }
             }
         }
 
@@ -998,19 +1009,6 @@ public final class SummerPictures {
             }
             readSum(tape, open + 1);
             tape.requireSign(')');
-        }
-
-        private void readNamed(Tape tape, int open) {
-            int fact = factNamed(tape);
-            if (fact != NONE) {
-                put(factCode(fact));
-            } else if (tape.isWord("least")) {
-                readPair(tape, open, LEAST);
-            } else if (tape.isWord("most")) {
-                readPair(tape, open, MOST);
-            } else {
-                tape.fail(FAULT_SIGN, tape.pieceAt);
-            }
         }
 
         private void readPair(Tape tape, int open, int sign) {
